@@ -1,0 +1,96 @@
+import java.lang.reflect.Constructor;
+import java.lang.reflect.Field;
+import java.lang.reflect.Method;
+import java.lang.reflect.Modifier;
+import java.nio.file.Files;
+import java.nio.file.Path;
+import java.util.ArrayList;
+import java.util.List;
+import java.util.Set;
+import java.util.TreeSet;
+
+/** The public face, and the rules of LANGUAGE.md that can be seen from outside or by words; run from the project's root. */
+public final class FaceTest {
+    private static final Checks CHECKS = new Checks();
+
+    private static final String[] FACE = {
+        "int monk(int, int, int)", "int wear(int)", "int say(int)", "int wipe()", "int fault()", "int judge(int)",
+        "int done()", "int lock(int, int, int)", "int power(int)", "int bears()", "int broken(int)",
+        "long share(int, int)", "int led(int, int)", "int load(int, int)", "int drop()", "int best(int)",
+        "int renewed(int, int, int)", "int soon(int, int, int, int)", "int weighed(int, int)", "int forget()",
+        "int canBe(int)", "int sure(int)", "int year(int, int, int)", "int image(int)", "int restore(int)",
+        "int told(int)"};
+
+    private static final String[] CONSTANTS = {"UNKNOWN", "OUTSIDE", "STATE", "FULL", "NO", "NONE", "GONE"};
+
+    private static final String[] FORBIDDEN = {
+        "throw", "throws", "try", "catch", "synchronized", "assert", "package", "->", "::", "Exact", "System.out",
+        "Random", "nanoTime", "currentTimeMillis", "Thread", "hashCode", "toString", "HashMap"};
+
+    public static void main(String[] args) throws Exception {
+        methods();
+        others();
+        words();
+        CHECKS.end();
+    }
+
+    private static String told(Method m) {
+        List<String> types = new ArrayList<>();
+        for (Class<?> type : m.getParameterTypes()) {
+            types.add(type.getSimpleName());
+        }
+        return m.getReturnType().getSimpleName() + " " + m.getName() + "(" + String.join(", ", types) + ")";
+    }
+
+    private static void methods() {
+        Set<String> found = new TreeSet<>();
+        Set<String> names = new TreeSet<>();
+        for (String one : FACE) {
+            names.add(one.substring(one.indexOf(' ') + 1, one.indexOf('(')));
+        }
+        for (Method m : HairBridge.class.getDeclaredMethods()) {
+            if (Modifier.isPrivate(m.getModifiers())) {
+                CHECKS.holds("private " + m.getName() + " has a name of its own", !names.contains(m.getName()));
+            } else {
+                CHECKS.holds(m.getName() + " is public, no more", Modifier.isPublic(m.getModifiers()));
+                found.add(told(m));
+            }
+        }
+        CHECKS.holds("the methods are those of the document: " + found, found.equals(new TreeSet<>(List.of(FACE))));
+    }
+
+    private static void others() {
+        CHECKS.holds("final", Modifier.isFinal(HairBridge.class.getModifiers()));
+        Constructor<?>[] constructors = HairBridge.class.getDeclaredConstructors();
+        CHECKS.due("constructors", constructors.length, 1);
+        CHECKS.holds("public constructor", Modifier.isPublic(constructors[0].getModifiers()));
+        Set<String> constants = new TreeSet<>();
+        for (Field f : HairBridge.class.getDeclaredFields()) {
+            boolean isStatic = Modifier.isStatic(f.getModifiers());
+            CHECKS.holds(f.getName() + " is final", !isStatic || Modifier.isFinal(f.getModifiers()));
+            if (!Modifier.isPrivate(f.getModifiers())) {
+                CHECKS.holds(f.getName() + " is a public constant", isStatic && Modifier.isPublic(f.getModifiers()));
+                constants.add(f.getName());
+            }
+        }
+        CHECKS.holds("the constants are those of the document", constants.equals(new TreeSet<>(List.of(CONSTANTS))));
+        Class<?>[] inside = HairBridge.class.getDeclaredClasses();
+        CHECKS.holds("not too many classes", inside.length <= 11);
+        for (Class<?> one : inside) {
+            int modifiers = one.getModifiers();
+            CHECKS.holds(one + " is static", Modifier.isStatic(modifiers));
+            CHECKS.holds(one + " is hidden", !Modifier.isPublic(modifiers) && !Modifier.isProtected(modifiers));
+        }
+    }
+
+    private static void words() throws Exception {
+        String source = Files.readString(Path.of("src/main/java/HairBridge.java"));
+        String code = source.replaceAll("(?s)/\\*.*?\\*/", "").replaceAll("//[^\n]*", "");
+        for (String word : FORBIDDEN) {
+            boolean isName = Character.isLetter(word.charAt(0));
+            String pattern = isName ? "(?s).*\\b" + word.replace(".", "\\.") + "\\b.*" : null;
+            CHECKS.holds("no " + word, isName ? !code.matches(pattern) : !code.contains(word));
+        }
+        CHECKS.holds("plain signs alone", source.chars().allMatch(c -> c == '\n' || c >= 32 && c < 127));
+    }
+}
