@@ -13,6 +13,7 @@ public final class LoadsTest {
         renewedRefused();
         renewed();
         renewedRoom();
+        renewedByLittle();
         soon();
         soonFullRope();
         soonLate();
@@ -152,6 +153,22 @@ public final class LoadsTest {
         way("another rope has", x, 40, 0, HairBridge.NONE);
         x.wear(1);
         way("a week makes room", x, 35, 2, HairBridge.NONE, 10);
+    }
+
+    /** Needs that are just met, by the least or by the strongest of the basket. */
+    private static void renewedByLittle() {
+        HairBridge x = new HairBridge();
+        x.wear(0);
+        Checks.act(x, "F-1");
+        way("one inch is all there is", x, 5, 1, 50);
+        way("no more than one inch", x, 6, HairBridge.NONE, HairBridge.NONE);
+        Checks.act(x, "B-9A-1");
+        way("the strongest is not the first", x, 45, 9, 10);
+        way("the need is met behind each week", x, 46, HairBridge.NONE, HairBridge.NONE, HairBridge.NONE);
+        Checks.act(x, "B3");
+        way("the strongest is gone", x, 50, 1, 3);
+        x.wear(1);
+        way("an inch a week", x, 45, 2, 3, 53);
     }
 
     private static void soon() {

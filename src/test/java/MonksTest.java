@@ -253,6 +253,14 @@ public final class MonksTest {
                 due("9 lock " + lock + ", " + what, x.lock(3, lock, what), want[lock][what]);
             }
         }
+        Checks.act(x, "..");
+        int[][] later = {{1, 6, 4}, {2, 2, 2}};
+        for (int lock = 0; lock < 2; lock++) {
+            for (int what = 0; what < 3; what++) {
+                due("9 lock " + lock + " behind the oldest, " + what, x.lock(3, lock, what), later[lock][what]);
+            }
+        }
+        due("9 the last lock has moved up", x.lock(3, 2, 0), HairBridge.UNKNOWN);
         due("9 no lock 3", x.lock(3, 3, 0), HairBridge.UNKNOWN);
         due("9 no lock -1", x.lock(3, -1, 0), HairBridge.UNKNOWN);
         due("9 no rope", x.lock(4, 0, 0), HairBridge.UNKNOWN);

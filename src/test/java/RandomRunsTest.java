@@ -280,5 +280,11 @@ public final class RandomRunsTest {
         for (int monk = 0; monk < 6; monk++) {
             due("led " + monk, x.led(monk, 1), y.led(monk, 1));
         }
+        int rope = draws.nextInt(4);
+        for (int lock = 0; lock < y.told(40 + rope); lock++) {
+            for (int of = 0; of < 3; of++) {
+                due("lock " + rope + " " + lock + " " + of, x.lock(rope, lock, of), y.lock(rope, lock, of));
+            }
+        }
     }
 }

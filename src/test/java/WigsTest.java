@@ -1,3 +1,5 @@
+import java.util.Random;
+
 /** Promises 20 to 24: weighings, wigs, years. */
 public final class WigsTest {
     private static final Checks CHECKS = new Checks();
@@ -11,6 +13,7 @@ public final class WigsTest {
         canBe();
         sure();
         ask();
+        wigsByDraws();
         year();
         yearAtTheEdges();
         CHECKS.end();
@@ -99,6 +102,41 @@ public final class WigsTest {
         due("23 ask, two are known", x.sure(2), 26);
         x.weighed(58, 0);
         due("23 ask, nothing is left to part", x.sure(2), 1);
+        x.forget();
+        for (int m = 0; m < 6; m++) {
+            x.monk(m, 0, 40);
+        }
+        due("23 ask, the greatest weight", x.sure(2), 31);
+        x.weighed(63, 240);
+        due("23 in none, the greatest weight", x.sure(1), 63);
+    }
+
+    /** One object asked again and again: nothing of one answer may be left for the next. */
+    private static void wigsByDraws() {
+        Random draws = new Random(23);
+        HairBridge x = new HairBridge();
+        PlainBridge y = new PlainBridge();
+        for (int n = 0; n < 300; n++) {
+            for (int m = 0; m < 6; m++) {
+                int hair = draws.nextInt(n % 2 == 0 ? 5 : 41);
+                x.monk(m, 0, hair);
+                y.monk(m, 0, hair);
+            }
+            due("21 forget", x.forget(), y.forget());
+            int wearers = draws.nextInt(64);
+            for (int k = draws.nextInt(4); k > 0; k--) {
+                int set = 1 + draws.nextInt(63);
+                int weight = 0;
+                for (int m = 0; m < 6; m++) {
+                    weight += (set & ~wearers & 1 << m) != 0 ? y.told(10 + m) : 0;
+                }
+                due("20 weighed", x.weighed(set, weight), y.weighed(set, weight));
+            }
+            due("22 how many", x.canBe(-1), y.canBe(-1));
+            for (int what = 0; what < 3; what++) {
+                due("23 sure " + what, x.sure(what), y.sure(what));
+            }
+        }
     }
 
     private static void year() {
