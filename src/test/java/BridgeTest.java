@@ -19,8 +19,8 @@ public final class BridgeTest {
     }
 
     /** Ropes of these powers: each rope has a lock of one monk, of one inch's strength each. */
-    private static HairBridge withPowers(int a, int b, int c, int d) {
-        HairBridge x = new HairBridge();
+    private static Bridge withPowers(int a, int b, int c, int d) {
+        Bridge x = new Bridge();
         int[] powers = {a, b, c, d};
         for (int r = 0; r < 4; r++) {
             x.monk(r, 1, 1);
@@ -40,7 +40,7 @@ public final class BridgeTest {
     }
 
     private static void power() {
-        HairBridge x = new HairBridge();
+        Bridge x = new Bridge();
         Checks.act(x, "A-3A0B-4B0A-2A1");
         x.monk(0, 1, 9);
         x.monk(1, 1, 2);
@@ -55,14 +55,14 @@ public final class BridgeTest {
     }
 
     private static void bears() {
-        due("11 none", new HairBridge().bears(), 0);
+        due("11 none", new Bridge().bears(), 0);
         due("11 one rope", withPowers(0, 7, 0, 0).bears(), 7);
         due("11 four alike", withPowers(5, 5, 5, 5).bears(), 20);
         due("11 one strong", withPowers(30, 5, 5, 5).bears(), 30);
         due("11 two of three", withPowers(10, 9, 2, 0).bears(), 18);
         due("11 three of four", withPowers(10, 8, 7, 1).bears(), 21);
         due("11 any rope may be the weak one", withPowers(1, 7, 10, 8).bears(), 21);
-        HairBridge x = withPowers(10, 10, 0, 0);
+        Bridge x = withPowers(10, 10, 0, 0);
         x.monk(1, 1, 0);
         due("11 a rope of no power holds nothing", x.bears(), 10);
     }
@@ -77,7 +77,7 @@ public final class BridgeTest {
                 p[r] = draws.nextInt(3) == 0 ? 0 : draws.nextInt(25);
                 whole |= p[r] > 0 ? 1 << r : 0;
             }
-            HairBridge x = withPowers(p[0], p[1], p[2], p[3]);
+            Bridge x = withPowers(p[0], p[1], p[2], p[3]);
             int load = 0;
             while (whole != 0 && x.broken(load + 1) != whole) {
                 load++;
@@ -87,7 +87,7 @@ public final class BridgeTest {
     }
 
     private static void broken() {
-        HairBridge x = withPowers(12, 6, 5, 1);
+        Bridge x = withPowers(12, 6, 5, 1);
         due("12 no load", x.broken(0), 0);
         due("12 each holds a share", x.broken(4), 0);
         due("12 one breaks, by a fraction", x.broken(5), 8);
@@ -97,19 +97,19 @@ public final class BridgeTest {
         due("12 two at once", withPowers(9, 2, 9, 2).broken(12), 10);
         due("12 one rope holds all", x.broken(12), 8);
         due("12 all break", x.broken(99999), 15);
-        HairBridge y = withPowers(12, 0, 5, 0);
+        Bridge y = withPowers(12, 0, 5, 0);
         due("12 two hold", y.broken(10), 0);
         due("12 one breaks, one holds", y.broken(12), 4);
         due("12 falls", y.broken(13), 5);
         due("12 ropes without power do not break", y.broken(50000), 5);
-        due("12 no ropes", new HairBridge().broken(1), 0);
+        due("12 no ropes", new Bridge().broken(1), 0);
         due("12 below", x.broken(-1), HairBridge.OUTSIDE);
         due("12 above", x.broken(100000), HairBridge.OUTSIDE);
     }
 
     private static void share() {
         long gone = HairBridge.GONE;
-        HairBridge x = new HairBridge();
+        Bridge x = new Bridge();
         due("13 no power", x.share(0, 0), gone + HairBridge.STATE);
         due("13 no monk", x.share(6, 0), gone + HairBridge.UNKNOWN);
         due("13 no monk -1", x.share(-1, 2), gone + HairBridge.UNKNOWN);
@@ -132,7 +132,7 @@ public final class BridgeTest {
     }
 
     private static void led() {
-        HairBridge x = new HairBridge();
+        Bridge x = new Bridge();
         x.wear(2);
         Checks.act(x, "A-3A0B-4B0A-1A2C-5C2B-2");
         due("14 in two ropes", x.led(0, 0), 4);

@@ -12,30 +12,42 @@ public final class EdgesTest {
 
     private static final Checks CHECKS = new Checks();
 
+    private static String start;
+    private static Bridge x;
+    private static PlainBridge y;
+
     public static void main(String[] args) throws Exception {
         Method[] methods = HairBridge.class.getDeclaredMethods();
         Arrays.sort(methods, Comparator.comparing(Method::getName));
-        for (String start : new String[] {"", "A-5A0B-9B1B-1.", "A-1A0".repeat(8) + "C-9D-1"}) {
-            HairBridge x = new HairBridge();
-            PlainBridge y = new PlainBridge();
-            for (char sign : start.toCharArray()) {
-                x.say(sign);
-                y.say(sign);
-            }
-            CHECKS.due("done", x.done(), y.done());
+        for (String text : new String[] {"", "A-5A0B-9B1B-1.", "A-1A0".repeat(8) + "C-9D-1"}) {
+            start = text;
+            startAnew();
             for (Method m : methods) {
                 if (java.lang.reflect.Modifier.isPublic(m.getModifiers())) {
+                    Method counted = Bridge.class.getDeclaredMethod(m.getName(), m.getParameterTypes());
                     Method plain = PlainBridge.class.getDeclaredMethod(m.getName(), m.getParameterTypes());
-                    tryAll(x, m, y, plain, new Object[m.getParameterCount()], 0);
+                    tryAll(counted, plain, new Object[m.getParameterCount()], 0);
                 }
             }
         }
         CHECKS.end();
     }
 
-    private static void tryAll(HairBridge x, Method m, PlainBridge y, Method plain, Object[] numbers, int at)
-            throws Exception {
+    private static void startAnew() {
+        x = new Bridge();
+        y = new PlainBridge();
+        for (char sign : start.toCharArray()) {
+            x.say(sign);
+            y.say(sign);
+        }
+        CHECKS.due("done", x.done(), y.done());
+    }
+
+    private static void tryAll(Method m, Method plain, Object[] numbers, int at) throws Exception {
         if (at == numbers.length) {
+            if (x.left() == 0) {
+                startAnew();
+            }
             long got = ((Number) m.invoke(x, numbers)).longValue();
             long want = ((Number) plain.invoke(y, numbers)).longValue();
             CHECKS.due(m.getName() + Arrays.toString(numbers), got, want);
@@ -43,7 +55,7 @@ public final class EdgesTest {
         }
         for (int v : numbers.length > 2 ? FEWER : EDGES) {
             numbers[at] = v;
-            tryAll(x, m, y, plain, numbers, at + 1);
+            tryAll(m, plain, numbers, at + 1);
         }
     }
 }

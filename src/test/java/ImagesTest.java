@@ -8,13 +8,14 @@ public final class ImagesTest {
 
     public static void main(String[] args) {
         images();
+        keptAnew();
         pad();
         told();
         CHECKS.end();
     }
 
-    private static HairBridge some() {
-        HairBridge x = new HairBridge();
+    private static Bridge some() {
+        Bridge x = new Bridge();
         x.wear(2);
         x.monk(3, 1, 7);
         Checks.act(x, "A-5A0B-3B0D-9D3.C-4F+2E-1E2");
@@ -24,7 +25,7 @@ public final class ImagesTest {
         return x;
     }
 
-    private static void changeAll(HairBridge x) {
+    private static void changeAll(Bridge x) {
         x.wear(1);
         x.monk(3, 1, 0);
         x.monk(0, 0, 33);
@@ -35,7 +36,7 @@ public final class ImagesTest {
     }
 
     private static void images() {
-        HairBridge x = some();
+        Bridge x = some();
         due("25 outside", x.image(2), HairBridge.OUTSIDE);
         due("25 below", x.image(-1), HairBridge.OUTSIDE);
         due("26 outside", x.restore(2), HairBridge.OUTSIDE);
@@ -58,17 +59,25 @@ public final class ImagesTest {
         CHECKS.holds("26 what came later is not in the image", first.equals(Checks.look(x)));
         due("26 the other one", x.restore(1), 1);
         CHECKS.holds("26 as it was then", second.equals(Checks.look(x)));
+    }
+
+    private static void keptAnew() {
+        Bridge x = some();
+        x.image(0);
+        changeAll(x);
+        x.image(1);
         x.drop();
         x.forget();
         String third = Checks.look(x);
         due("25 kept anew", x.image(0), 1);
         x.restore(1);
+        CHECKS.holds("26 the other one is not changed by it", !third.equals(Checks.look(x)));
         x.restore(0);
         CHECKS.holds("25 the newer is kept", third.equals(Checks.look(x)));
     }
 
     private static void pad() {
-        HairBridge x = some();
+        Bridge x = some();
         Checks.write(x, "A+1");
         x.image(0);
         Checks.write(x, "B+");
@@ -81,7 +90,7 @@ public final class ImagesTest {
     }
 
     private static void told() {
-        HairBridge x = some();
+        Bridge x = some();
         Checks.write(x, "..");
         int[] want = new int[60];
         java.util.Arrays.fill(want, HairBridge.OUTSIDE);

@@ -2,12 +2,13 @@ import java.util.Random;
 
 /** Runs of calls by draws, on the class and on PlainBridge side by side: all promises. */
 public final class RandomRunsTest {
-    private static final int CALLS = 512;
+    /** No step makes more calls than these. */
+    private static final int STEP = 60;
 
     private final Checks checks = new Checks();
     private final Random draws;
     private final int run;
-    private final HairBridge x = new HairBridge();
+    private final Bridge x = new Bridge();
     private final PlainBridge y = new PlainBridge();
     private int call = 0;
 
@@ -33,7 +34,7 @@ public final class RandomRunsTest {
         if (run % 3 > 0) {
             fill();
         }
-        while (call < CALLS && checks.wrong() == 0) {
+        while (x.left() >= STEP && checks.wrong() == 0) {
             step();
         }
         return checks.wrong();

@@ -20,7 +20,7 @@ public final class WigsTest {
     }
 
     private static void weighed() {
-        HairBridge x = new HairBridge();
+        Bridge x = new Bridge();
         due("21 none", x.forget(), 0);
         due("20 least", x.weighed(1, 0), 1);
         due("20 most", x.weighed(63, 240), 2);
@@ -41,7 +41,7 @@ public final class WigsTest {
     }
 
     private static void canBe() {
-        HairBridge x = new HairBridge();
+        Bridge x = new Bridge();
         due("22 all", x.canBe(-1), 64);
         for (int i = 0; i < 64; i++) {
             due("22 the " + i + "-th of all", x.canBe(i), i);
@@ -71,7 +71,7 @@ public final class WigsTest {
     }
 
     private static void sure() {
-        HairBridge x = new HairBridge();
+        Bridge x = new Bridge();
         due("23 none is sure", x.sure(0), 0);
         due("23 nobody is cleared", x.sure(1), 0);
         x.weighed(3, 0);
@@ -90,7 +90,7 @@ public final class WigsTest {
     }
 
     private static void ask() {
-        HairBridge x = new HairBridge();
+        Bridge x = new Bridge();
         due("23 ask, all alike", x.sure(2), 31);
         for (int m = 0; m < 6; m++) {
             x.monk(m, 0, 1 << Math.min(m, 5));
@@ -114,9 +114,13 @@ public final class WigsTest {
     /** One object asked again and again: nothing of one answer may be left for the next. */
     private static void wigsByDraws() {
         Random draws = new Random(23);
-        HairBridge x = new HairBridge();
+        Bridge x = new Bridge();
         PlainBridge y = new PlainBridge();
         for (int n = 0; n < 300; n++) {
+            if (x.left() < 20) {
+                x = new Bridge();
+                y = new PlainBridge();
+            }
             for (int m = 0; m < 6; m++) {
                 int hair = draws.nextInt(n % 2 == 0 ? 5 : 41);
                 x.monk(m, 0, hair);
@@ -140,7 +144,7 @@ public final class WigsTest {
     }
 
     private static void year() {
-        HairBridge x = new HairBridge();
+        Bridge x = new Bridge();
         String before = Checks.look(x);
         due("24 seed below", x.year(-1, 1, 0), HairBridge.OUTSIDE);
         due("24 seed above", x.year(10000, 1, 0), HairBridge.OUTSIDE);
@@ -166,18 +170,19 @@ public final class WigsTest {
 
     /** What he can not do is left out: bare heads, heads of 40, full ropes, a full basket. */
     private static void yearAtTheEdges() {
-        HairBridge x = new HairBridge();
-        PlainBridge y = new PlainBridge();
-        x.wear(0);
-        y.wear(0);
-        for (int m = 0; m < 6; m++) {
-            int hair = m % 2 == 0 ? 0 : 40;
-            x.monk(m, 0, hair);
-            y.monk(m, 0, hair);
-        }
-        for (int seed = 0; seed < 10000; seed += 37) {
-            for (int what = 0; what < 2; what++) {
-                due("24 seed " + seed, x.year(seed, 60, what), y.year(seed, 60, what));
+        for (int first = 0; first < 10000; first += 5000) {
+            Bridge x = new Bridge();
+            PlainBridge y = new PlainBridge();
+            x.wear(0);
+            y.wear(0);
+            for (int m = 0; m < 6; m++) {
+                int hair = m % 2 == 0 ? 0 : 40;
+                x.monk(m, 0, hair);
+                y.monk(m, 0, hair);
+            }
+            for (int seed = first; seed < first + 5000; seed += 37) {
+                due("24 seed " + seed, x.year(seed, 60, 0), y.year(seed, 60, 0));
+                due("24 seed " + seed + ", at least", x.year(seed, 60, 1), y.year(seed, 60, 1));
             }
         }
     }
