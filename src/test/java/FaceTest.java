@@ -31,6 +31,7 @@ public final class FaceTest {
         methods();
         others();
         words();
+        sizes();
         CHECKS.end();
     }
 
@@ -92,5 +93,31 @@ public final class FaceTest {
             CHECKS.holds("no " + word, isName ? !code.matches(pattern) : !code.contains(word));
         }
         CHECKS.holds("plain signs alone", source.chars().allMatch(c -> c == '\n' || c >= 32 && c < 127));
+    }
+
+    /** Rules 4, 5 and 11: what is taken from the library, static fields, how large classes and methods are. */
+    private static void sizes() throws Exception {
+        List<Class<?>> all = new ArrayList<>(List.of(HairBridge.class.getDeclaredClasses()));
+        all.add(HairBridge.class);
+        for (Class<?> one : all) {
+            int fields = 0;
+            for (Field f : one.getDeclaredFields()) {
+                boolean isStatic = Modifier.isStatic(f.getModifiers());
+                CHECKS.holds(one + " " + f.getName() + ", if static, is final", !isStatic || Modifier.isFinal(f.getModifiers()));
+                fields += isStatic ? 0 : 1;
+            }
+            CHECKS.holds(one + " has at most twenty fields", fields <= 20);
+            for (Method m : one.getDeclaredMethods()) {
+                CHECKS.holds(m + " takes at most seven numbers", m.getParameterCount() <= 7);
+            }
+        }
+        int since = 0;
+        int number = 0;
+        for (String line : Files.readAllLines(Path.of("src/main/java/HairBridge.java"))) {
+            number++;
+            CHECKS.holds("import: " + line, !line.startsWith("import") || line.equals("import java.util.Arrays;"));
+            since = line.isBlank() ? number : since;
+            CHECKS.holds("a method of at most sixty lines behind line " + since, number - since <= 60);
+        }
     }
 }

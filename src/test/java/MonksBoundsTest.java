@@ -80,7 +80,8 @@ public final class MonksBoundsTest {
         S.holds("3: WEAR (0 to 9), the greatest", "wear 9 = 1; wear 10 = OUTSIDE; told 1 = 9; wear 9 = 9");
         S.holds("3: WEAR (0 to 9), the least", "wear 0 = 1; wear -1 = OUTSIDE; told 1 = 0; wear 0 = 0");
         S.holds("3: OUTSIDE, far beyond", "wear MIN = OUTSIDE; wear MAX = OUTSIDE; wear 257 = OUTSIDE; wear 5 = 1");
-        S.holds("3: WEAR as it is when the WEEK goes by", "act A-9A0 = 2; wear 3; act . = 1; lock 0 0 1 = 6; wear 2; act . = 1; lock 0 0 1 = 4");
+        S.holds("3: WEAR as it is when the WEEK goes by",
+            "act A-9A0 = 2; wear 3; act . = 1; lock 0 0 1 = 6; wear 2; act . = 1; lock 0 0 1 = 4");
     }
 
     private static void say() {
@@ -100,8 +101,10 @@ public final class MonksBoundsTest {
         S.holds("5: signs go, none there", "wipe = 0; wipe = 0");
         S.holds("5: signs go, one", "text A; wipe = 1; told 0 = 0; fault = NONE; wipe = 0");
         S.holds("5: signs go, 60", "text " + ".".repeat(60) + "; wipe = 60; told 0 = 0; done = 0; told 2 = 0");
-        S.holds("5: what they say is not done", "text A+9B-1.; wipe = 7; told 10 = 10; told 11 = 10; told 31 = 0; told 2 = 0; done = 0");
-        S.holds("5: a new text stands for itself", "text A+; wipe = 2; text B0; fault = NONE; judge 0 = 0; wipe = 2; text A; fault = 1");
+        S.holds("5: what they say is not done",
+            "text A+9B-1.; wipe = 7; told 10 = 10; told 11 = 10; told 31 = 0; told 2 = 0; done = 0");
+        S.holds("5: a new text stands for itself",
+            "text A+; wipe = 2; text B0; fault = NONE; judge 0 = 0; wipe = 2; text A; fault = 1");
     }
 
     /** Each sign at each kind of place: it can stand there, and then the text ends or more must come, or it can not. */
@@ -139,17 +142,22 @@ public final class MonksBoundsTest {
         for (int m = 0; m < 6; m++) {
             String name = "" + (char) ('A' + m);
             S.holds("7: 1 HAIR of " + name + " would be above 40",
-                ("monk M 0 31; text X+9; judge 0 = NONE; judge 1 = NONE; wipe = 3; monk M 0 32; text X+9; judge 0 = 0; judge 1 = 1;"
-                + "wipe; monk M 0 40; text X+1; judge 1 = 1; monk M 0 39; judge 1 = NONE").replace("M", "" + m).replace("X", name));
+                ("monk M 0 31; text X+9; judge 0 = NONE; judge 1 = NONE; wipe = 3; monk M 0 32; text X+9; judge 0 = 0;"
+                    + "judge 1 = 1;"
+                + "wipe; monk M 0 40; text X+1; judge 1 = 1; monk M 0 39; judge 1 = NONE").replace("M", ""
+                + m).replace("X", name));
             S.holds("7: 2 HAIR of " + name + " is less than what is cut",
                 ("monk M 0 9; text X-9; judge 0 = NONE; judge 1 = NONE; monk M 0 8; judge 0 = 0; judge 1 = 2;"
                 + "wipe; monk M 0 0; text X-1; judge 1 = 2; monk M 0 1; judge 1 = NONE").replace("M", "" + m).replace("X", name));
         }
-        S.holds("7: the PARTS ahead of it count as done, sins", "text A+9A+9A+9A+3; judge 0 = NONE; text A+1; judge 0 = 4; judge 1 = 1");
-        S.holds("7: the PARTS ahead of it count as done, prayers", "text A-9A-1; judge 0 = NONE; text A-1; judge 0 = 2; judge 1 = 2");
+        S.holds("7: the PARTS ahead of it count as done, sins",
+            "text A+9A+9A+9A+3; judge 0 = NONE; text A+1; judge 0 = 4; judge 1 = 1");
+        S.holds("7: the PARTS ahead of it count as done, prayers",
+            "text A-9A-1; judge 0 = NONE; text A-1; judge 0 = 2; judge 1 = 2");
         S.holds("7: what was cut may grow again", "monk 0 0 40; text A-1A+1; judge 0 = NONE; text A+1; judge 0 = 2; judge 1 = 1");
         S.holds("7: what has grown may be cut", "monk 0 0 0; text A+4A-4; judge 0 = NONE; text A-1; judge 0 = 2; judge 1 = 2");
-        S.holds("7: another's HAIR does not help", "monk 1 0 40; monk 0 0 0; text A-1; judge 1 = 2; wipe; text B-9; judge 1 = NONE");
+        S.holds("7: another's HAIR does not help",
+            "monk 1 0 40; monk 0 0 0; text A-1; judge 1 = 2; wipe; text B-9; judge 1 = NONE");
     }
 
     private static void judgeBasketAndRopes() {
@@ -167,12 +175,16 @@ public final class MonksBoundsTest {
         S.holds("7: 4 a WEEK makes room", "text " + "A-1A0".repeat(8) + ".B-1B0; judge 0 = NONE");
         S.holds("7: 4 a WEEK without WEAR makes none", "wear 0; text " + "A-1A0".repeat(8) + ".B-1B0; judge 0 = 18; judge 1 = 4");
         S.holds("7: 5 THE BASKET has 99 of his at most",
-            "monk 2 0 40; act C-9C-9C-9C-9C-4 = 5; monk 2 0 40; act C-9C-9C-9C-9C-4 = 5; monk 2 0 40; act C-9C-9 = 2; told 32 = 98;"
+            "monk 2 0 40; act C-9C-9C-9C-9C-4 = 5; monk 2 0 40; act C-9C-9C-9C-9C-4 = 5; monk 2 0 40; act C-9C-9 = 2;"
+            + "told 32 = 98;"
             + "text C-1; judge 0 = NONE; wipe; text C-2; judge 0 = 0; judge 1 = 5; wipe; text C-1C-1; judge 0 = 1; judge 1 = 5");
         S.holds("7: 5 each MONK has his own 99", BASKET_OF_99 + "text D-9; judge 0 = NONE; done = 1; told 33 = 9; told 32 = 99");
-        S.holds("7: 5 there is room when it is woven in", BASKET_OF_99 + "monk 2 0 9; text C-9; judge 1 = 5; wipe; text C0C-9; judge 1 = NONE");
-        S.holds("7: the least reason, 2 ahead of 5", BASKET_OF_99 + "monk 2 0 8; text C-9; judge 1 = 2; wipe; text C-8; judge 1 = 5");
-        S.holds("7: the least reason, 3 ahead of 4", "act " + "A-1A0".repeat(8) + "; text B0; judge 0 = 0; judge 1 = 3; act B-1 = NO;"
+        S.holds("7: 5 there is room when it is woven in",
+            BASKET_OF_99 + "monk 2 0 9; text C-9; judge 1 = 5; wipe; text C0C-9; judge 1 = NONE");
+        S.holds("7: the least reason, 2 ahead of 5",
+            BASKET_OF_99 + "monk 2 0 8; text C-9; judge 1 = 2; wipe; text C-8; judge 1 = 5");
+        S.holds("7: the least reason, 3 ahead of 4",
+            "act " + "A-1A0".repeat(8) + "; text B0; judge 0 = 0; judge 1 = 3; act B-1 = NO;"
             + "wipe; act B-1 = 1; text B0; judge 1 = 4");
     }
 
@@ -186,8 +198,10 @@ public final class MonksBoundsTest {
         S.holds("7: NO: there is a FAULT, a sign", "text A0x; judge 0 = NO; judge 1 = NO; told 0 = 3");
         S.holds("7: NO: there is a FAULT, more must come", "text A0A; judge 0 = NO; judge 1 = NO; say 48 = 4; judge 0 = 0");
         S.holds("7: OUTSIDE ahead of NO", "text x; judge -1 = OUTSIDE; judge 2 = OUTSIDE; judge 0 = NO");
-        S.holds("7: nothing is done", "text A+5A-9A0.; judge 0 = NONE; judge 1 = NONE; told 0 = 9; told 10 = 10; told 30 = 0; told 40 = 0; told 2 = 0");
-        S.holds("7: nothing is done ahead of a PART that can not be", "text A+5B0; judge 0 = 1; told 10 = 10; told 0 = 5; judge 0 = 1");
+        S.holds("7: nothing is done",
+            "text A+5A-9A0.; judge 0 = NONE; judge 1 = NONE; told 0 = 9; told 10 = 10; told 30 = 0; told 40 = 0; told 2 = 0");
+        S.holds("7: nothing is done ahead of a PART that can not be",
+            "text A+5B0; judge 0 = 1; told 10 = 10; told 0 = 5; judge 0 = 1");
     }
 
     private static void done() {
@@ -195,78 +209,112 @@ public final class MonksBoundsTest {
         S.holds("8: PARTS, not signs", "act A+1B-1B0. = 4");
         S.holds("8: 60 PARTS", "text " + ".".repeat(60) + "; done = 60; told 2 = 60");
         S.holds("8: the PAD is empty then", "text A+1; done = 1; told 0 = 0; done = 0; told 10 = 11; fault = NONE");
-        S.holds("8: + and a digit 1 to 9: HAIR grows so much", "act A+1 = 1; told 10 = 11; act A+9 = 1; told 10 = 20; told 11 = 10; told 30 = 0");
+        S.holds("8: + and a digit 1 to 9: HAIR grows so much",
+            "act A+1 = 1; told 10 = 11; act A+9 = 1; told 10 = 20; told 11 = 10; told 30 = 0");
         S.holds("8: HAIR grows as far as 40", "monk 5 0 31; act F+9 = 1; told 15 = 40; act F+1 = NO; told 15 = 40");
         S.holds("8: - and a digit 1 to 9: so much is cut, and is in THE BASKET",
-            "act F-1 = 1; told 15 = 9; told 35 = 1; act F-9 = 1; told 15 = 0; told 35 = 10; told 34 = 0; act F-1 = NO; told 35 = 10");
+            "act F-1 = 1; told 15 = 9; told 35 = 1; act F-9 = 1; told 15 = 0; told 35 = 10; told 34 = 0; act F-1 = NO;"
+            + "told 35 = 10");
         S.holds("8: THE BASKET has 99 at most", BASKET_OF_99 + "monk 2 0 1; act C-1 = NO; told 32 = 99; told 12 = 1");
         S.holds("8: a LOCK of all 99", BASKET_OF_99 + "act C3 = 1; told 32 = 0; lock 3 0 0 = 2; lock 3 0 1 = 99");
         S.holds("8: all of his becomes the newest LOCK, none of another's",
             "act A-2A-3B-4A2 = 4; told 30 = 0; told 31 = 4; told 42 = 1; lock 2 0 0 = 0; lock 2 0 1 = 5; led 1 0 = 0");
         for (int rope = 0; rope < 4; rope++) {
-            S.holds("8: a digit 0 to 3: ROPE " + rope, "act E-7E" + rope + " = 2; told 4" + rope + " = 1; led 4 0 = 7; told 4" + (rope + 1) % 4 + " = 0");
+            S.holds("8: a digit 0 to 3: ROPE " + rope,
+                "act E-7E" + rope + " = 2; told 4" + rope + " = 1; led 4 0 = 7; told 4" + (rope + 1) % 4 + " = 0");
         }
     }
 
     private static void doneRefused() {
-        S.holds("8: NO: there is a FAULT, and nothing is done", "text A+1.x; done = NO; told 10 = 10; told 2 = 0; told 0 = 5; fault = 4");
-        S.holds("8: NO: there is a FAULT, more must come", "text A+1B; done = NO; told 10 = 10; told 0 = 4; say 45; say 49; done = 2");
+        S.holds("8: NO: there is a FAULT, and nothing is done",
+            "text A+1.x; done = NO; told 10 = 10; told 2 = 0; told 0 = 5; fault = 4");
+        S.holds("8: NO: there is a FAULT, more must come",
+            "text A+1B; done = NO; told 10 = 10; told 0 = 4; say 45; say 49; done = 2");
         S.holds("8: NO: the last PART can not be, and nothing is half done",
-            "text A+1B-2B1.C0; done = NO; told 10 = 10; told 11 = 10; told 31 = 0; told 41 = 0; told 2 = 0; told 0 = 11; led 1 1 = 0");
+            "text A+1B-2B1.C0; done = NO; told 10 = 10; told 11 = 10; told 31 = 0; told 41 = 0; told 2 = 0; told 0 = 11;"
+            + "led 1 1 = 0");
         S.holds("8: NO: the first PART can not be", "text D0A+1; done = NO; told 10 = 10; told 0 = 5");
-        S.holds("8: NO for each reason", "monk 0 0 40; text A+1; done = NO; wipe; monk 0 0 0; text A-1; done = NO; wipe; text A0; done = NO");
-        S.holds("8: NO: the ROPE has 8 LOCKS", "act " + "A-1A0".repeat(8) + " = 16; act B-1 = 1; text B0; done = NO; told 31 = 1; told 40 = 8");
-        S.holds("8: what is refused may be done later", "text A0; done = NO; image 0; wipe; act A-1 = 1; text A0; done = 1; lock 0 0 1 = 1");
+        S.holds("8: NO for each reason",
+            "monk 0 0 40; text A+1; done = NO; wipe; monk 0 0 0; text A-1; done = NO; wipe; text A0; done = NO");
+        S.holds("8: NO: the ROPE has 8 LOCKS",
+            "act " + "A-1A0".repeat(8) + " = 16; act B-1 = 1; text B0; done = NO; told 31 = 1; told 40 = 8");
+        S.holds("8: what is refused may be done later",
+            "text A0; done = NO; image 0; wipe; act A-1 = 1; text A0; done = 1; lock 0 0 1 = 1");
     }
 
     private static void locks() {
         S.holds("8: LOCKS one behind another, the oldest first",
-            "act A-1A0B-2B0C-3C0 = 6; lock 0 0 0 = 0; lock 0 1 0 = 1; lock 0 2 0 = 2; lock 0 0 1 = 1; lock 0 1 1 = 2; lock 0 2 1 = 3");
-        S.holds("8: 8 LOCKS at most", "wear 0; act " + "A-1A0".repeat(8) + " = 16; told 40 = 8; act .. = 2; told 40 = 8; act B-1B0 = NO; told 40 = 8");
-        S.holds("8: two LOCKS of one MONK in one WEEK are two", "act A-2A0A-3A0 = 4; told 40 = 2; lock 0 0 1 = 2; lock 0 1 1 = 3; led 0 0 = 5");
+            "act A-1A0B-2B0C-3C0 = 6; lock 0 0 0 = 0; lock 0 1 0 = 1; lock 0 2 0 = 2; lock 0 0 1 = 1; lock 0 1 1 = 2;"
+            + "lock 0 2 1 = 3");
+        S.holds("8: 8 LOCKS at most",
+            "wear 0; act " + "A-1A0".repeat(8) + " = 16; told 40 = 8; act .. = 2; told 40 = 8; act B-1B0 = NO; told 40 = 8");
+        S.holds("8: two LOCKS of one MONK in one WEEK are two",
+            "act A-2A0A-3A0 = 4; told 40 = 2; lock 0 0 1 = 2; lock 0 1 1 = 3; led 0 0 = 5");
         S.holds("8: a full ROPE has room behind a WEEK",
-            "act " + "A-1A0".repeat(8) + ". = 17; told 40 = 7; act B-2B0 = 2; told 40 = 8; lock 0 7 0 = 1; lock 0 7 1 = 2; act C-1C0 = NO");
+            "act " + "A-1A0".repeat(8) + ". = 17; told 40 = 7; act B-2B0 = 2; told 40 = 8; lock 0 7 0 = 1; lock 0 7 1 = 2;"
+            + "act C-1C0 = NO");
         S.holds("8: four full ROPES", "wear 0; monk 0 0 40; act " + "A-1A0".repeat(8) + "; act " + "A-1A1".repeat(8) + "; act "
-            + "A-1A2".repeat(8) + "; act " + "A-1A3".repeat(8) + " = 16; told 40 = 8; told 41 = 8; told 42 = 8; told 43 = 8; led 0 0 = 32;"
+            + "A-1A2".repeat(8) + "; act " + "A-1A3".repeat(8) + " = 16; told 40 = 8; told 41 = 8; told 42 = 8; told 43 = 8;"
+            + "led 0 0 = 32;"
             + "act A-1 = 1; text A0; judge 1 = 4; wipe; text A3; judge 1 = 4");
     }
 
     private static void weeks() {
         S.holds("8: each ROPE loses WEAR inches",
             "act A-3A0B-4B1C-5C2D-6D3. = 9; lock 0 0 1 = 2; lock 1 0 1 = 3; lock 2 0 1 = 4; lock 3 0 1 = 5; told 2 = 1");
-        S.holds("8: WEAR 0: nothing is lost, but the WEEK counts", "wear 0; act A-1A0... = 5; lock 0 0 1 = 1; told 2 = 3; lock 0 0 2 = 3; led 0 1 = 0");
-        S.holds("8: the oldest first", "act A-2A0B-2B0. = 5; lock 0 0 0 = 0; lock 0 0 1 = 1; lock 0 1 1 = 2; led 0 1 = 1; led 1 1 = 0");
-        S.holds("8: what is of no inches is no LOCK", "act A-1A0B-2B0. = 5; told 40 = 1; lock 0 0 0 = 1; lock 0 0 1 = 2; lock 0 1 0 = UNKNOWN");
-        S.holds("8: a WEEK takes no HAIR and nothing of THE BASKET", "wear 9; act A-4... = 4; told 10 = 6; told 30 = 4; led 0 1 = 0");
+        S.holds("8: WEAR 0: nothing is lost, but the WEEK counts",
+            "wear 0; act A-1A0... = 5; lock 0 0 1 = 1; told 2 = 3; lock 0 0 2 = 3; led 0 1 = 0");
+        S.holds("8: the oldest first",
+            "act A-2A0B-2B0. = 5; lock 0 0 0 = 0; lock 0 0 1 = 1; lock 0 1 1 = 2; led 0 1 = 1; led 1 1 = 0");
+        S.holds("8: what is of no inches is no LOCK",
+            "act A-1A0B-2B0. = 5; told 40 = 1; lock 0 0 0 = 1; lock 0 0 1 = 2; lock 0 1 0 = UNKNOWN");
+        S.holds("8: a WEEK takes no HAIR and nothing of THE BASKET",
+            "wear 9; act A-4... = 4; told 10 = 6; told 30 = 4; led 0 1 = 0");
         S.holds("8: a WEEK for ROPES without LOCKS", "wear 9; act . = 1; told 40 = 0; told 43 = 0; told 2 = 1");
     }
 
     private static void weekBounds() {
         String three = "act A-3A0B-2B0C-4C0 = 6;";
-        S.holds("8: WEAR one less than the oldest", three + "wear 2; act .; told 40 = 3; lock 0 0 1 = 1; led 0 1 = 2; led 1 1 = 0");
-        S.holds("8: WEAR all of the oldest", three + "wear 3; act .; told 40 = 2; lock 0 0 0 = 1; lock 0 0 1 = 2; led 0 1 = 3; led 1 1 = 0");
-        S.holds("8: WEAR one more than the oldest", three + "wear 4; act .; told 40 = 2; lock 0 0 0 = 1; lock 0 0 1 = 1; led 0 1 = 3; led 1 1 = 1");
-        S.holds("8: WEAR all of the two oldest", three + "wear 5; act .; told 40 = 1; lock 0 0 0 = 2; lock 0 0 1 = 4; led 1 1 = 2; led 2 1 = 0");
+        S.holds("8: WEAR one less than the oldest",
+            three + "wear 2; act .; told 40 = 3; lock 0 0 1 = 1; led 0 1 = 2; led 1 1 = 0");
+        S.holds("8: WEAR all of the oldest",
+            three + "wear 3; act .; told 40 = 2; lock 0 0 0 = 1; lock 0 0 1 = 2; led 0 1 = 3; led 1 1 = 0");
+        S.holds("8: WEAR one more than the oldest",
+            three + "wear 4; act .; told 40 = 2; lock 0 0 0 = 1; lock 0 0 1 = 1; led 0 1 = 3; led 1 1 = 1");
+        S.holds("8: WEAR all of the two oldest",
+            three + "wear 5; act .; told 40 = 1; lock 0 0 0 = 2; lock 0 0 1 = 4; led 1 1 = 2; led 2 1 = 0");
         S.holds("8: WEAR one less than the whole ROPE", three + "wear 8; act .; told 40 = 1; lock 0 0 1 = 1; led 2 1 = 3");
         S.holds("8: WEAR the whole ROPE", three + "wear 9; act .; told 40 = 0; led 0 1 = 3; led 1 1 = 2; led 2 1 = 4");
         S.holds("8: WEAR more than the whole ROPE", "act B-8B0; wear 9; act .; told 40 = 0; led 1 1 = 8; act .; led 1 1 = 8");
-        S.holds("8: WEAR of one ROPE is not taken from another", "act A-1A0B-9B1; wear 5; act .; told 40 = 0; lock 1 0 1 = 4; led 1 1 = 5");
-        S.holds("8: WEAR goes through eight LOCKS", "act " + "A-1A0".repeat(8) + "; wear 7; act .; told 40 = 1; led 0 1 = 7; act .; told 40 = 0; led 0 1 = 8");
+        S.holds("8: WEAR of one ROPE is not taken from another",
+            "act A-1A0B-9B1; wear 5; act .; told 40 = 0; lock 1 0 1 = 4; led 1 1 = 5");
+        S.holds("8: WEAR goes through eight LOCKS",
+            "act " + "A-1A0".repeat(8) + "; wear 7; act .; told 40 = 1; led 0 1 = 7; act .; told 40 = 0; led 0 1 = 8");
     }
 
     private static void lock() {
         String some = "act A-5A3.B-6B3..C-2C3 = 9;";
         S.holds("9: 0 its MONK", some + "lock 3 0 0 = 0; lock 3 1 0 = 1; lock 3 2 0 = 2");
         S.holds("9: 1 inches", some + "lock 3 0 1 = 2; lock 3 1 1 = 6; lock 3 2 1 = 2");
-        S.holds("9: 2 DATED: how many WEEKS ago it was woven in", some + "lock 3 0 2 = 3; lock 3 1 2 = 2; lock 3 2 2 = 0; act . = 1; lock 3 2 2 = 1");
-        S.holds("9: DATED stays with a LOCK that moves up", some + "act .. = 2; lock 3 0 0 = 1; lock 3 0 2 = 4; lock 3 1 0 = 2; lock 3 1 2 = 2");
-        S.holds("9: DATED, 420 WEEKS", "wear 0; act A-1A0 = 2;" + ("act " + ".".repeat(60) + " = 60;").repeat(7) + "lock 0 0 2 = 420; told 2 = 420; lock 0 0 1 = 1");
-        S.holds("9: UNKNOWN: there is no such ROPE", some + "lock -1 0 0 = UNKNOWN; lock 4 0 0 = UNKNOWN; lock MIN 0 0 = UNKNOWN; lock MAX 0 0 = UNKNOWN");
+        S.holds("9: 2 DATED: how many WEEKS ago it was woven in",
+            some + "lock 3 0 2 = 3; lock 3 1 2 = 2; lock 3 2 2 = 0; act . = 1; lock 3 2 2 = 1");
+        S.holds("9: DATED stays with a LOCK that moves up",
+            some + "act .. = 2; lock 3 0 0 = 1; lock 3 0 2 = 4; lock 3 1 0 = 2; lock 3 1 2 = 2");
+        S.holds("9: DATED, 420 WEEKS",
+            "wear 0; act A-1A0 = 2;" + ("act " + ".".repeat(60) + " = 60;").repeat(7) + "lock 0 0 2 = 420; told 2 = 420;"
+            + "lock 0 0 1 = 1");
+        S.holds("9: UNKNOWN: there is no such ROPE",
+            some + "lock -1 0 0 = UNKNOWN; lock 4 0 0 = UNKNOWN; lock MIN 0 0 = UNKNOWN; lock MAX 0 0 = UNKNOWN");
         S.holds("9: UNKNOWN: there is no such LOCK", some
-            + "lock 3 -1 0 = UNKNOWN; lock 3 3 0 = UNKNOWN; lock 3 2 0 = 2; lock 2 0 0 = UNKNOWN; lock 3 MIN 1 = UNKNOWN; lock 3 MAX 2 = UNKNOWN");
-        S.holds("9: UNKNOWN: the last of 8", "act " + "A-1A0".repeat(8) + "; lock 0 7 1 = 1; lock 0 8 1 = UNKNOWN; lock 1 7 1 = UNKNOWN");
-        S.holds("9: UNKNOWN: a LOCK that has worn away", "act A-1A0B-1B0. = 5; lock 0 0 0 = 1; lock 0 1 0 = UNKNOWN; act . = 1; lock 0 0 0 = UNKNOWN");
-        S.holds("9: OUTSIDE: what is 0 to 2", some + "lock 3 0 -1 = OUTSIDE; lock 3 0 3 = OUTSIDE; lock 3 2 MIN = OUTSIDE; lock 3 2 MAX = OUTSIDE");
-        S.holds("9: UNKNOWN ahead of OUTSIDE", some + "lock 4 0 3 = UNKNOWN; lock -1 0 -1 = UNKNOWN; lock 3 3 3 = UNKNOWN; lock 3 -1 -1 = UNKNOWN");
+            + "lock 3 -1 0 = UNKNOWN; lock 3 3 0 = UNKNOWN; lock 3 2 0 = 2; lock 2 0 0 = UNKNOWN; lock 3 MIN 1 = UNKNOWN;"
+            + "lock 3 MAX 2 = UNKNOWN");
+        S.holds("9: UNKNOWN: the last of 8",
+            "act " + "A-1A0".repeat(8) + "; lock 0 7 1 = 1; lock 0 8 1 = UNKNOWN; lock 1 7 1 = UNKNOWN");
+        S.holds("9: UNKNOWN: a LOCK that has worn away",
+            "act A-1A0B-1B0. = 5; lock 0 0 0 = 1; lock 0 1 0 = UNKNOWN; act . = 1; lock 0 0 0 = UNKNOWN");
+        S.holds("9: OUTSIDE: what is 0 to 2",
+            some + "lock 3 0 -1 = OUTSIDE; lock 3 0 3 = OUTSIDE; lock 3 2 MIN = OUTSIDE; lock 3 2 MAX = OUTSIDE");
+        S.holds("9: UNKNOWN ahead of OUTSIDE",
+            some + "lock 4 0 3 = UNKNOWN; lock -1 0 -1 = UNKNOWN; lock 3 3 3 = UNKNOWN; lock 3 -1 -1 = UNKNOWN");
     }
 }

@@ -6,9 +6,11 @@
 public final class RefusalsTest {
     private static final Sentences S = new Sentences();
 
-    private static final String KEPT = "wear 2; monk 3 1 7; act A-5A0B-3B0D-9D3.C-4F+2E-1E2 = 11; load 10 3; load 4 8; weighed 5 11; image 0;";
+    private static final String KEPT = "wear 2; monk 3 1 7; act A-5A0B-3B0D-9D3.C-4F+2E-1E2 = 11; load 10 3; load 4 8;"
+        + "weighed 5 11; image 0;";
     /** Both IMAGES kept, LOCKS in each ROPE, some in THE BASKET, LOADS and WEIGHINGS that mean something. */
-    private static final String SOME = KEPT + "monk 0 0 33; act B-1B1A-2C0. = 5; load 9 9; forget; weighed 3 33; image 1; act A1C-2 = 2; monk 1 1 9; load 0 1;";
+    private static final String SOME = KEPT + "monk 0 0 33; act B-1B1A-2C0. = 5; load 9 9; forget; weighed 3 33; image 1;"
+        + "act A1C-2 = 2; monk 1 1 9; load 0 1;";
     private static final String[] STATES = {
         "",
         SOME,
@@ -16,7 +18,8 @@ public final class RefusalsTest {
         SOME + "text A+1F0;",
         SOME + "text A+1.x;",
         SOME + "weighed 3 34; text A;",
-        "monk 2 0 33; act C-9C-9C-9C-6 = 4;".repeat(3) + "act " + "A-1A0".repeat(8) + " = 16;" + "load 5 5;".repeat(5) + "load 0 9;"
+        "monk 2 0 33; act C-9C-9C-9C-6 = 4;".repeat(3) + "act " + "A-1A0".repeat(8) + " = 16;" + "load 5 5;".repeat(5)
+        + "load 0 9;"
             + "weighed 1 2;".repeat(6) + "image 1; text " + "C-1".repeat(20) + ";",
     };
 
@@ -65,7 +68,8 @@ public final class RefusalsTest {
 
     private static void refused(String state, String[] calls, String due) {
         for (String call : calls) {
-            S.holds("of all: " + call + " is refused, and changes nothing", state + call + " = " + due + ";" + call + " = " + due);
+            S.holds("of all: " + call + " is refused, and changes nothing",
+                state + call + " = " + due + ";" + call + " = " + due);
         }
     }
 
@@ -81,6 +85,7 @@ public final class RefusalsTest {
         S.holds("7: NO, a FAULT, changes nothing", STATES[4] + "judge 0 = NO; judge 1 = NO");
         S.holds("8: NO, more must come, changes nothing", STATES[5] + "done = NO; fault = 1; judge 0 = NO");
         S.holds("23: NO, none CAN BE, changes nothing", STATES[5] + "canBe -1 = 0; sure 0 = NO; sure 1 = NO; sure 2 = NO");
-        S.holds("13: STATE, no POWER, changes nothing", "wear 9; act A-5A0; load 0 1; share 0 0 = 1; act .; share 0 0 = GONE+STATE; share 5 1 = GONE+STATE");
+        S.holds("13: STATE, no POWER, changes nothing",
+            "wear 9; act A-5A0; load 0 1; share 0 0 = 1; act .; share 0 0 = GONE+STATE; share 5 1 = GONE+STATE");
     }
 }

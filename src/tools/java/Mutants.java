@@ -126,7 +126,8 @@ public final class Mutants {
     /** The tests are compiled with the whole class: the constants that they name stay as they are. */
     private static Path compileTests(String[] names) throws Exception {
         Path dir = Files.createTempDirectory("tests");
-        List<String> command = new ArrayList<>(List.of("javac", "-nowarn", "-d", dir.toString(), "-sourcepath", CLASS.getParent() + File.pathSeparator + TESTS));
+        String sources = CLASS.getParent() + File.pathSeparator + TESTS;
+        List<String> command = new ArrayList<>(List.of("javac", "-nowarn", "-d", dir.toString(), "-sourcepath", sources));
         for (String name : names) {
             command.add(TESTS.resolve(name + ".java").toString());
         }
