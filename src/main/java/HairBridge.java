@@ -279,12 +279,12 @@ public final class HairBridge {
         trial.become(now.abbey);
         int x = seed;
         int bears = 0;
-        int least = Integer.MAX_VALUE;
+        int least = 0;
         for (int week = 0; week < w; week++) {
             x = trial.drawDeeds(x);
             trial.passWeek();
             bears = trial.bearsLess(0);
-            least = Math.min(least, bears);
+            least = week == 0 ? bears : Math.min(least, bears);
         }
         return what == 0 ? bears : least;
     }

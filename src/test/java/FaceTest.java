@@ -8,6 +8,8 @@ import java.util.ArrayList;
 import java.util.List;
 import java.util.Set;
 import java.util.TreeSet;
+import java.util.regex.Matcher;
+import java.util.regex.Pattern;
 
 /** The public face, and the rules of LANGUAGE.md that can be seen from outside or by words; run from the project's root. */
 public final class FaceTest {
@@ -21,7 +23,15 @@ public final class FaceTest {
         "int canBe(int)", "int sure(int)", "int year(int, int, int)", "int image(int)", "int restore(int)",
         "int told(int)"};
 
-    private static final String[] CONSTANTS = {"UNKNOWN", "OUTSIDE", "STATE", "FULL", "NO", "NONE", "GONE"};
+    private static final String[] CONSTANTS = {
+        "int UNKNOWN = -1", "int OUTSIDE = -2", "int STATE = -3", "int FULL = -4", "int NO = -5", "int NONE = -6",
+        "long GONE = -1000000000000000000"};
+
+    /** What the class takes of the library, of what rule 4 lists. */
+    private static final Set<String> LIBRARY = Set.of(
+        "System.arraycopy(", "Arrays.fill(", "Integer.bitCount(", "Integer.numberOfTrailingZeros(", "Math.max(", "Math.min(");
+    private static final Pattern TAKEN = Pattern.compile(
+        "\\b(System|Arrays|Integer|Long|Short|Byte|Character|Boolean|Double|Float|Math|StrictMath|String|List)\\s*\\.\\s*\\w+\\s*\\(?");
 
     private static final String[] FORBIDDEN = {
         "throw", "throws", "try", "catch", "synchronized", "assert", "package", "->", "::", "Exact", "System.out",
@@ -53,14 +63,14 @@ public final class FaceTest {
             if (Modifier.isPrivate(m.getModifiers())) {
                 CHECKS.holds("private " + m.getName() + " has a name of its own", !names.contains(m.getName()));
             } else {
-                CHECKS.holds(m.getName() + " is public, no more", Modifier.isPublic(m.getModifiers()));
+                CHECKS.due(m.getName() + " is public, no more", m.getModifiers(), Modifier.PUBLIC);
                 found.add(told(m));
             }
         }
         CHECKS.holds("the methods are those of the document: " + found, found.equals(new TreeSet<>(List.of(FACE))));
     }
 
-    private static void others() {
+    private static void others() throws Exception {
         CHECKS.holds("final", Modifier.isFinal(HairBridge.class.getModifiers()));
         Constructor<?>[] constructors = HairBridge.class.getDeclaredConstructors();
         CHECKS.due("constructors", constructors.length, 1);
@@ -70,8 +80,9 @@ public final class FaceTest {
             boolean isStatic = Modifier.isStatic(f.getModifiers());
             CHECKS.holds(f.getName() + " is final", !isStatic || Modifier.isFinal(f.getModifiers()));
             if (!Modifier.isPrivate(f.getModifiers())) {
-                CHECKS.holds(f.getName() + " is a public constant", isStatic && Modifier.isPublic(f.getModifiers()));
-                constants.add(f.getName());
+                boolean isConstant = isStatic && Modifier.isPublic(f.getModifiers());
+                CHECKS.holds(f.getName() + " is a public constant", isConstant);
+                constants.add(f.getType() + " " + f.getName() + " = " + (isConstant ? f.get(null) : "?"));
             }
         }
         CHECKS.holds("the constants are those of the document", constants.equals(new TreeSet<>(List.of(CONSTANTS))));
@@ -91,6 +102,11 @@ public final class FaceTest {
             boolean isName = Character.isLetter(word.charAt(0));
             String pattern = isName ? "(?s).*\\b" + word.replace(".", "\\.") + "\\b.*" : null;
             CHECKS.holds("no " + word, isName ? !code.matches(pattern) : !code.contains(word));
+        }
+        Matcher taken = TAKEN.matcher(code);
+        while (taken.find()) {
+            String one = taken.group().replaceAll("\\s", "");
+            CHECKS.holds("rule 4 lists " + one, LIBRARY.contains(one));
         }
         CHECKS.holds("plain signs alone", source.chars().allMatch(c -> c == '\n' || c >= 32 && c < 127));
     }
